@@ -736,13 +736,16 @@ public final class UmbrellaVote {
             int a = row / 100;
             int b = row / 10 % 10;
             int c = row % 10;
+            int fromA = pair(0, a, 0);
+            int fromB = pair(1, b, 0);
+            int fromC = pair(2, c, 0);
             int shareA = 0;
             int shareB = 0;
             int shareC = 0;
             for (int rain = 0; rain < PLACES; rain++) {
-                int timeA = times[pair(0, a, rain)];
-                int timeB = times[pair(1, b, rain)];
-                int timeC = times[pair(2, c, rain)];
+                int timeA = times[fromA + rain];
+                int timeB = times[fromB + rain];
+                int timeC = times[fromC + rain];
                 int least = Math.min(timeA, Math.min(timeB, timeC));
                 int n = (timeA == least ? 1 : 0) + (timeB == least ? 1 : 0) + (timeC == least ? 1 : 0);
                 if (least == NOT || n < 1) {

@@ -274,6 +274,8 @@ public final class PromiseTest {
         due("opens: no such", x.opens(6, 0), UNKNOWN);
         due("opens: no place", x.opens(0, 10), UNKNOWN);
         due("opens: no place below", x.opens(0, -1), UNKNOWN);
+        x.stand(5, 1, 2, 0, false);
+        due("opens: the last person", x.opens(5, 0), 11);
         x.stand(0, 3, 0, 0, true);
         due("opens: hole", x.opens(0, 3), NONE);
         due("opens: hole, no place", x.opens(0, 10), UNKNOWN);
@@ -315,6 +317,11 @@ public final class PromiseTest {
         due("reign: fault", x.reign(-1), NO);
         due("reign: fault ahead of outside", x.reign(99), NO);
         due("reign: fault ahead of outside below", x.reign(-2), NO);
+        halves();
+        write("4");
+        due("reign: rain over 4", x.reign(-1), 1);
+        write("5");
+        due("reign: rain over 5", x.reign(-1), 2);
         halves();
         write("0!5");
         due("reign: a dry sprinkler changes nothing", x.reign(-1), 1);
@@ -412,6 +419,9 @@ public final class PromiseTest {
     }
 
     private void promise15Chance() {
+        fresh();
+        due("chance: a party of nobody", x.chance(6, 0), 0);
+        due("chance: a party of nobody, by", x.chance(7, 1), 1);
         halves();
         due("chance: A", x.chance(0, 0), 1);
         due("chance: A by", x.chance(0, 1), 2);
@@ -525,6 +535,32 @@ public final class PromiseTest {
         x.leave(3);
         due("rests: three again", x.rests(0), 111);
         due("rests: nothing is done", x.told(20), 0);
+        restsOfThree();
+    }
+
+    private void restsOfThree() {
+        fresh();
+        x.stand(1, 0, 0, 0, false);
+        x.stand(2, 0, 0, 0, false);
+        x.stand(5, 0, 0, 0, false);
+        x.weight(4, 5);
+        x.weight(9, 4);
+        for (int place = 0; place < 9; place++) {
+            if (place != 4) {
+                x.weight(place, 0);
+            }
+        }
+        // Two share the 5 and one has the 4: to join it is worth 2, to come to the others 3, of 9.
+        due("rests: three", x.rests(-1), 3);
+        due("rests: three, 0", x.rests(0), 449);
+        due("rests: three, 1", x.rests(1), 494);
+        due("rests: three, 2", x.rests(2), 944);
+        x.stand(1, 0, 9, 0, false);
+        // The first is too slow wherever it stands next to others: it takes no rain from them.
+        x.weight(9, 0);
+        due("rests: a slow first", x.rests(-1), 10);
+        due("rests: a slow first, 0", x.rests(0), 44);
+        due("rests: a slow first, 9", x.rests(9), 944);
     }
 
     private void promise19Coup() {
@@ -566,6 +602,9 @@ public final class PromiseTest {
         due("quick: who is not there", x.quick(2, 3, 2), UNKNOWN);
         due("quick: no such", x.quick(-1, 0, 1), UNKNOWN);
         due("quick: nothing is done", x.told(21), 1);
+        x.stand(1, 2, 0, 1, false);
+        due("quick: as quick as can be", x.quick(0, 1, 2), 0);
+        due("quick: not quick enough", x.quick(0, 51, 100), NONE);
         x.stand(1, 7, 1, 1, true);
         due("quick: alone", x.quick(0, 100, 100), 9);
         due("quick: a hole", x.quick(1, 1, 100), NONE);
