@@ -15,6 +15,9 @@ public final class UmbrellaVote {
     // Every number of people up to six divides 60, so that each one's part of a regency is whole.
     private static final int SHARES = 60;
 
+    // Later than any umbrella: 9 places by 9 seconds, a shade of 9 and a slow of 9 make 99.
+    private static final int TOO_LATE = 1000;
+
     private final City city;
     private final City trial;
     private final City[] images;
@@ -456,7 +459,7 @@ public final class UmbrellaVote {
         /** Who of some, all of them with good umbrellas, opens first, as bits. */
         int firstOf(int some, int rain) {
             int first = 0;
-            int least = Integer.MAX_VALUE;
+            int least = TOO_LATE;
             for (int person = 0; person < PEOPLE; person++) {
                 if (hasBit(some, person)) {
                     int time = openTimeAt(places[person], slows[person], rain);
@@ -685,7 +688,6 @@ public final class UmbrellaVote {
      */
     private static final class Resting {
         static final int SLOTS = 3, ROWS = 1000;
-        static final int NOT = Integer.MAX_VALUE;
 
         int rows;
         final int[] weights = new int[PLACES];
@@ -705,7 +707,7 @@ public final class UmbrellaVote {
         }
 
         void fillSlots(City city) {
-            Arrays.fill(times, NOT);
+            Arrays.fill(times, TOO_LATE);
             rows = 1;
             int slot = SLOTS - 1;
             for (int person = PEOPLE - 1; person >= 0 && slot >= 0; person--) {
@@ -748,7 +750,7 @@ public final class UmbrellaVote {
                 int timeC = times[fromC + rain];
                 int least = Math.min(timeA, Math.min(timeB, timeC));
                 int n = (timeA == least ? 1 : 0) + (timeB == least ? 1 : 0) + (timeC == least ? 1 : 0);
-                if (least == NOT || n < 1) {
+                if (least == TOO_LATE || n < 1) {
                     continue;
                 }
                 int share = weights[rain] * (SHARES / n);

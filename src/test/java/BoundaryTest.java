@@ -547,8 +547,18 @@ public final class BoundaryTest {
     private void sprinklerOverEachPlace() {
         for (int place = 0; place < 10; place++) {
             for (int at = 0; at < 10; at++) {
-                reign("D" + at + "0s", "!" + place, at == place ? 8 : NONE);
+                for (int person = 0; person < 6; person++) {
+                    char letter = (char) ('A' + person);
+                    reign(letter + "" + at + "0s", "!" + place, at == place ? 1 << person : NONE);
+                }
             }
+        }
+        // Who stands next to it and is quicker opens as little as who stands far away.
+        for (int person = 0; person < 6; person++) {
+            with("A40s B40s C40s D40s E40s F40s", "!5");
+            x.stand(person, 5, 9, 0, false);
+            due("the slow one alone, " + person, x.reign(-1), 1 << person);
+            due("the slow one's coup, " + person, x.coup(person), 5);
         }
     }
 
@@ -1458,6 +1468,7 @@ public final class BoundaryTest {
     private void images() {
         imageNumbers();
         allButThePad();
+        eachSightIsKept();
         asItWasWhenItWasKept();
     }
 
@@ -1527,6 +1538,30 @@ public final class BoundaryTest {
         return all.toString();
     }
 
+    /** "All but the PAD is kept": of six sights the one that tells, the last as the first */
+    private void eachSightIsKept() {
+        for (int telling = 0; telling < 6; telling++) {
+            with(HALVES);
+            for (int i = 0; i < 6; i++) {
+                x.seen(i == telling ? 1 : 2, i == telling ? 0 : 5);
+            }
+            x.image(0);
+            x.forget();
+            for (int i = 0; i < 6; i++) {
+                x.seen(0, 2);
+            }
+            x.image(1);
+            due("other sights", x.fits(), 992);
+            x.restore(0);
+            due("six sights", x.told(5), 6);
+            due("sight " + telling + " of the image", x.fits(), 31);
+            x.restore(1);
+            due("other sights of the other image", x.fits(), 992);
+            x.forget();
+            due("a sight more behind the image's", x.restore(0) + x.seen(0, 0), 1 + FULL);
+        }
+    }
+
     /** "It is as it was when it was kept" */
     private void asItWasWhenItWasKept() {
         with("A00s");
@@ -1556,6 +1591,7 @@ public final class BoundaryTest {
     private void tellings() {
         toldAll();
         toldOfWhoIsThere();
+        toldOfEachPerson();
     }
 
     /** "0 signs, 1 PEOPLE, 2 SPREAD, 3 SHADE, 4 TABLES, 5 SIGHTS, 10 on WEIGHTS" */
@@ -1590,6 +1626,25 @@ public final class BoundaryTest {
         x.leave(5);
         for (int part = 0; part < 4; part++) {
             due("told of F, who went, " + part, x.told(70 + part), OUTSIDE);
+        }
+    }
+
+    /** "2 its PARTY, 3 a HOLE": either without the other, of each PERSON; told alike by 0 and 1 */
+    private void toldOfEachPerson() {
+        for (int person = 0; person < 6; person++) {
+            for (int kind = 0; kind < 4; kind++) {
+                int party = kind % 2;
+                boolean hole = kind > 1;
+                with("A00s B11c C22sh D33ch E44c F55s");
+                x.stand(person, 7, 8, party, hole);
+                int at = 20 + 10 * person;
+                due("place of " + person, x.told(at), 7);
+                due("slow of " + person, x.told(at + 1), 8);
+                due("party of " + person + ", kind " + kind, x.told(at + 2), party);
+                due("hole of " + person + ", kind " + kind, x.told(at + 3), hole ? 1 : 0);
+                due("no fifth of " + person, x.told(at + 4), OUTSIDE);
+                due("all are there", x.told(1), 63);
+            }
         }
     }
 }
