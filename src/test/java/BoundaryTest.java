@@ -1074,6 +1074,12 @@ public final class BoundaryTest {
         digits("F00s B00s D00s", 1, 666, 666);
         // B is too slow to have any of it: it alone may stand anywhere.
         digits("A00s B09s C00s", 10, 606, 696);
+        digits("D00s E09s F00s", 10, 606, 696);
+        digits("B09s D00s F00s", 10, 66, 966);
+        digits("A00s E00s F09s", 10, 660, 669);
+        // A quick one has all by standing four places away at most; the slow one beside it gets nothing.
+        digits("C00s F09s", 80, 20, 99);
+        digits("E09s F00s", 80, 2, 99);
     }
 
     private void digits(String people, int many, int first, int last) {
