@@ -30,7 +30,7 @@ public final class UmbrellaVote {
         trial = new City();
         images = new City[IMAGES];
         pad = new Pad();
-        history = new History(city);
+        history = new History();
         resting = new Resting();
     }
 
@@ -136,7 +136,7 @@ public final class UmbrellaVote {
         if (!within(parts, -1, all)) {
             return OUTSIDE;
         }
-        history.play(pad, parts == -1 ? all : parts);
+        history.play(city, pad, parts == -1 ? all : parts);
         return history.ruling == 0 ? NONE : history.ruling;
     }
 
@@ -147,7 +147,7 @@ public final class UmbrellaVote {
         if (!within(of, 0, REIGNS)) {
             return OUTSIDE;
         }
-        history.play(pad, pad.parts());
+        history.play(city, pad, pad.parts());
         return of == REIGNS ? history.reigns : history.yearsOf(of);
     }
 
@@ -208,7 +208,7 @@ public final class UmbrellaVote {
         }
         // A sprinkler elsewhere does not wet the person: only its own place comes into question.
         int place = city.places[person];
-        return city.sprinkled(city.umbrellas(), place) == 1 << person ? place : NONE;
+        return city.sprinkled(place) == 1 << person ? place : NONE;
     }
 
     public int quick(int person, int a, int b) {
@@ -276,7 +276,7 @@ public final class UmbrellaVote {
         if (!within(seed, 0, 9999) || !within(n, 1, 99) || !within(of, 0, 7)) {
             return OUTSIDE;
         }
-        history.begin();
+        history.begin(city);
         int x = seed;
         for (int i = 0; i < n; i++) {
             x = (75 * x + 74) % 65537;
@@ -474,9 +474,9 @@ public final class UmbrellaVote {
             return firstOf(umbrellas(), rain);
         }
 
-        /** Who of some opens first by a sprinkler: rain that comes to its own place alone. */
-        int sprinkled(int some, int place) {
-            int wet = some;
+        /** Who opens first by a sprinkler: rain that comes to its own place alone. */
+        int sprinkled(int place) {
+            int wet = umbrellas();
             for (int person = 0; person < PEOPLE; person++) {
                 wet = places[person] == place ? wet : withBit(wet, person, false);
             }
@@ -592,26 +592,23 @@ public final class UmbrellaVote {
         }
     }
 
-    /** Who rules, from nobody on, while things happen in a city that stays as it is. */
+    /** Who rules, from nobody on, while things happen. */
     private static final class History {
-        final City city;
+        // A copy, since winds that are only told break no umbrella in fact.
+        final City city = new City();
         final int[] years = new int[NOBODY + 1];
-        int ruling, broken, reigns;
+        int ruling, reigns;
 
-        History(City city) {
-            this.city = city;
-        }
-
-        void begin() {
+        void begin(City from) {
+            city.copyFrom(from);
             ruling = 0;
-            broken = 0;
             reigns = 0;
             Arrays.fill(years, 0);
         }
 
         /** Plays so many parts of a pad that has no fault. */
-        void play(Pad pad, int parts) {
-            begin();
+        void play(City from, Pad pad, int parts) {
+            begin(from);
             int first = 0;
             int played = 0;
             for (int i = 0; i < pad.count && played < parts; i++) {
@@ -628,7 +625,7 @@ public final class UmbrellaVote {
 
         void happen(int first, int sign) {
             if (first == '!') {
-                opened(city.sprinkled(umbrellas(), sign - '0'));
+                opened(city.sprinkled(sign - '0'));
             } else if (first == '-') {
                 become(0);
                 pass(sign - '0');
@@ -641,12 +638,8 @@ public final class UmbrellaVote {
             }
         }
 
-        int umbrellas() {
-            return city.umbrellas() & ~broken;
-        }
-
         void rain(int place) {
-            opened(city.firstOf(umbrellas(), place));
+            opened(city.firstOf(city.umbrellas(), place));
         }
 
         void opened(int who) {
@@ -657,7 +650,7 @@ public final class UmbrellaVote {
 
         void breakUmbrella(int person) {
             // Who is not there neither opens nor rules: its broken umbrella changes nothing.
-            broken = withBit(broken, person, true);
+            city.holes = withBit(city.holes, person, true);
             become(withBit(ruling, person, false));
         }
 
